@@ -67,7 +67,7 @@ public final class ChainParts {
             latestFault = tape.faultRead();
             return FAULT_BASE - tape.place();
         }
-        fresh.saveTo(cells.row());
+        cells.loadFrom(fresh.row());
         acts = 0;
         return cells.sizeOf(0) + cells.sizeOf(1) + cells.sizeOf(2);
     }
@@ -552,11 +552,11 @@ public final class ChainParts {
         }
 
         private int slot(int i) {
-            return isWithin(i, slots.length) ? slots[i] : 0;
+            return i >= 0 && i < slots.length ? slots[i] : 0;
         }
 
         private void setSlot(int i, int v) {
-            if (isWithin(i, slots.length)) {
+            if (i >= 0 && i < slots.length) {
                 slots[i] = v;
             }
         }
@@ -787,20 +787,16 @@ public final class ChainParts {
         private final int[] letters = new int[WORD_ROOM];
         private int size = 0;
 
-        static boolean isLetter(int code) {
-            return code >= 'a' && code <= 'z' || isBackward(code);
-        }
-
         static boolean isBackward(int code) {
             return code >= 'A' && code <= 'Z';
         }
 
         /** The number of the EDGE that a letter would mean; -1 for what is no letter. */
         static int edgeOf(int code) {
-            if (!isLetter(code)) {
-                return -1;
+            if (code >= 'A' && code <= 'Z') {
+                return code - 'A';
             }
-            return isBackward(code) ? code - 'A' : code - 'a';
+            return code >= 'a' && code <= 'z' ? code - 'a' : -1;
         }
 
         void clear() {
@@ -927,8 +923,12 @@ public final class ChainParts {
             takeSign('f');
             int w = takeDigit(1, MOST_WEIGHT);
             word.clear();
-            for (int i = 0; i < TAPE_ROOM && faultRead == 0 && Word.isLetter(token(place)); i++) {
-                takeLetter(into, word);
+            for (int i = 0; i < TAPE_ROOM && faultRead == 0 && Word.edgeOf(token(place)) >= 0; i++) {
+                if (word.append(into, token(place))) {
+                    place++;
+                } else {
+                    faultRead = NOT_AS_TOLD;
+                }
             }
             if (faultRead == 0 && token(place) == ';' && word.size() > 0 && !word.isClosed(into)) {
                 faultRead = NOT_AS_TOLD;
@@ -939,14 +939,6 @@ public final class ChainParts {
             takeSign(';');
             if (faultRead == 0) {
                 into.addFace(word, w);
-            }
-        }
-
-        private void takeLetter(Cells cells, Word word) {
-            if (word.append(cells, token(place))) {
-                place++;
-            } else {
-                faultRead = NOT_AS_TOLD;
             }
         }
 
