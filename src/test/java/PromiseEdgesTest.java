@@ -97,7 +97,7 @@ public final class PromiseEdgesTest {
 
     @Caller.Says("The WEIGHT of an EDGE (dim = 1), a FACE (2) is w: what it was. BAD (no COMPLEX, too).")
     static void promise06() {
-        String text = "c2;e013;e002;f1bb;f2b;f3B;";
+        String text = "c2;e103;e002;f1bb;f2b;f3B;";
         taken(text, "weigh X 0 1", 1, 2);
         taken(text, "weigh 1 X 1", 0, 1);
         taken(text, "weigh 2 X 1", 0, 2);
@@ -140,6 +140,11 @@ public final class PromiseEdgesTest {
         o.tape("a").is("face 1", FULL).is("count 4", 0).tape("bb").is("face 1", BAD).is("count 4", 0).tape("a")
             .is("face 4", BAD).is("count 4", 0).is("face 1", BAD).is("count 2", 4).is("count 3", 4);
         o.is("cell 2 1 0", 3).is("cell 2 1 1", 3).is("cell 2 1 12", 'B').is("cell 2 1 13", NONE).is("cell 2 2 13", 'B');
+        Caller p = Caller.reads("c1;e001;e001;").chain(0, 5, 6).chain(1, 7, 8).chain(2, 9, -9);
+        for (int f = 0; f < 4; f++) {
+            p.tape("abAB").is("face 1", f).chainIs(0, 5, 6).chainIs(1, 7, 8).chainIs(2, 9, -9);
+        }
+        p.is("cell 2 3 10", 'a').is("cell 2 3 13", 'B').is("cell 2 0 10", 'a').is("cell 1 0 0", 1);
     }
 
     @Caller.Says("An EDGE (dim = 1; in all CHAINS, too), a FACE (2) is gone, those behind it have numbers that are 1 less (in WORDS, too): how many there are then.")
@@ -158,9 +163,46 @@ public final class PromiseEdgesTest {
         faces.is("drop 2 0", BAD).is("drop 1 0", 0).is("drop 1 0", BAD).is("count 0", 1).is("edge 0 0 2", 0);
     }
 
+    @Caller.Says("those behind it have numbers that are 1 less (in WORDS, too)")
+    static void promise09Behind() {
+        Caller o = Caller.reads("c5;e011;e122;e233;e341;e402;e443;f1F;").is("drop 1 0", 5);
+        for (int e = 0; e < 4; e++) {
+            o.is("cell 1 " + e + " 0", (e + 1) % 3 + 1).is("cell 1 " + e + " 1", e + 1).is("cell 1 " + e + " 2", (e + 2) % 5);
+        }
+        o.is("cell 1 4 0", 3).is("cell 1 4 1", 4).is("cell 1 4 2", 4).is("cell 1 5 0", BAD).is("cell 2 0 10", 'E');
+        o.is("drop 1 3", 4).is("cell 1 2 1", 3).is("cell 1 3 1", 4).is("cell 1 3 2", 4).is("cell 2 0 10", 'D').is("cell 2 0 11", NONE);
+        Caller words = Caller.reads("c1;e001;e001;e001;e001;f1bbbb;f1c;f1dDcC;f1D;").is("drop 1 0", 3);
+        String due = "aaaabcCbBC";
+        int at = 0;
+        for (int f = 0; f < 4; f++) {
+            for (int k = 0; k < (f % 2 == 0 ? 4 : 1); k++) {
+                words.is("cell 2 " + f + " 1" + k, due.charAt(at));
+                at++;
+            }
+        }
+        Caller few = Caller.reads("c1;e001;e001;f1b;f1B;f1bb;f1BB;").is("drop 1 0", 1);
+        few.is("cell 2 0 10", 'a').is("cell 2 1 10", 'A').is("cell 2 2 11", 'a').is("cell 2 3 11", 'A').is("table 2 0 3", -2);
+    }
+
+    @Caller.Says("is gone")
+    static void promise09Gone() {
+        Caller o = Caller.reads("c2;e002;e013;").chain(0, 1, 9).chain(1, 0, -9).is("ends 0 1", 9).is("drop 1 1", 1);
+        o.is("ends 0 0", 0).is("ends 0 1", 0).is("ends 1 1", 0).is("whole 0 0", 1).all(0, "near 0 0 0", "near 0 0 1", "near 0 1 1");
+        o.is("rank 1 0", 0).is("holes 0 0", 2).is("holes 1 0", 1).fraction("length 0 3", 1, 2).is("share 1 0", STATE);
+        o.is("trees 1 0", 1).is("trees 1 1", 1).is("minors 0", 1).is("minors 1", 1).fraction("part 0 2 0", 1, 1).is("near 1 0 0", 0);
+        o.is("drawn 1 2", 1).is("drop 1 0", 0).is("whole 0 2", 1).is("share 0 0", STATE).is("drawn 0 2", 0);
+        Caller p = Caller.reads("c1;e001;e002;f3a;f2ab;f1bbb;").chain(0, 1, 1).is("drop 2 2", 2).is("drop 2 1", 1);
+        p.is("near 2 0 0", 3).is("near 2 0 1", 0).is("near 2 1 1", 0).is("rank 2 0", 1).is("holes 2 0", 0).is("twist 1 0", 1);
+        p.is("whole 0 1", 0).is("whole 0 2", NONE).fraction("part 0 0 1", 0, 1).fraction("part 0 2 1", 1, 1).is("trees 2 1", 3);
+        p.is("minors 2", 3).is("twist 2 0", BAD).is("drop 2 0", 0).is("near 2 0 0", 0).is("trees 2 1", 1).is("rank 2 0", 0);
+        p.fraction("part 0 0 0", 0, 1).is("drop 1 1", 1).is("bound 0 0 0", BAD).tape("a").is("face 2", 0).is("bound 0 0 -1", 0);
+        Caller q = Caller.reads("c1;e001;e001;").chain(2, 4, 5).is("drop 1 1", 1).tape("aA").is("face 1", 0).is("bound 2 0 9", 1);
+        q.is("edge 0 0 1", 1).chainIs(2, 4, 0).is("bound 2 0 9", 1);
+    }
+
     @Caller.Says("BAD (no COMPLEX, too); STATE: an EDGE that is in some WORD.")
     static void promise09Refused() {
-        String text = "c2;e011;e112;e003;f1aA;f2cc;";
+        String text = "c2;e101;e112;e003;f1aA;f2cc;";
         taken(text, "drop X 1", 1, 2);
         taken(text, "drop 1 X", 0, 2);
         taken(text, "drop 2 X", 0, 1);
@@ -208,13 +250,16 @@ public final class PromiseEdgesTest {
         new Caller().all(STATE, "drawn 0 1", "drawn 3 1", "drawn 0 0", "drawn 0 1000000");
         Caller.reads("c5;").is("drawn 0 1", 0).is("drawn 2 999999", 0).is("count 3", 2).is("drawn 0 0", BAD).is("count 3", 2);
         Caller.reads("c1;e001;e001;e001;e001;e001;").is("drawn 2 1", 4).chainIs(2, 2, -2, -1, 8, 0).chainIs(0, 0, 0, 0, 0, 0);
+        Caller o = Caller.reads(SIX).chain(2, 9, 8, 7, 6, 5, 4);
+        o.is("drawn 0 1", 5).chainIs(0, 2, -2, -1, 8, 0, 4).chainIs(1, 0, 0, 0, 0, 0, 0).chainIs(2, 9, 8, 7, 6, 5, 4);
+        o.is("drawn 1 1", 5).chainIs(1, 2, -2, -1, 8, 0, 4).chainIs(2, 9, 8, 7, 6, 5, 4).is("drawn 2 1", 5).is("cell 1 5 0", 1);
     }
 
     // ---- cells
 
     @Caller.Says("Of an EDGE (dim = 1), a FACE (2): 0 WEIGHT, 1 FROM (how many letters), 2 TO (the POINT at which its WORD begins), 10 and k: letter k (0 to 3) of its WORD (a code; NONE: not so many; of an EDGE: BAD). BAD (no COMPLEX, too).")
     static void promise13() {
-        String text = "c2;e013;e112;f1aA;f3Aabb;f2b;";
+        String text = "c2;e103;e112;f1aA;f3aAbb;f2b;";
         taken(text, "cell X 0 0", 1, 2);
         taken(text, "cell 1 X 0", 0, 1);
         taken(text, "cell 2 X 0", 0, 2);
@@ -231,7 +276,7 @@ public final class PromiseEdgesTest {
 
     @Caller.Says("A cell (of dim 0 to 2) is taken as one of a KIND (0 to 5): the cell's number; NONE: it is not of that. BAD (no COMPLEX, too).")
     static void promise14() {
-        String text = "c3;e011;e001;f1b;f1bB;f1aA;f1bb;";
+        String text = "c3;e101;e001;f1b;f1bB;f1aA;f1bb;";
         taken(text, "as X 0 0", 0, 2);
         taken(text, "as 0 X 0", 0, 2);
         taken(text, "as 1 X 0", 0, 1);
@@ -245,7 +290,7 @@ public final class PromiseEdgesTest {
 
     @Caller.Says("TABLE 1, 2: row i, column j. BAD (no COMPLEX, too).")
     static void promise15() {
-        String text = "c3;e011;e121;e001;e001;f1c;f1aA;";
+        String text = "c3;e101;e121;e001;e001;f1c;f1aA;";
         taken(text, "table X 0 0", 1, 2);
         taken(text, "table 1 X 0", 0, 2);
         taken(text, "table 1 0 X", 0, 3);
@@ -256,7 +301,7 @@ public final class PromiseEdgesTest {
 
     @Caller.Says("NEIGHBOURS (which = 0 to 2): row i, column j. BAD (no COMPLEX, too).")
     static void promise16() {
-        String text = "c3;e011;e121;e001;e001;f1c;f1aA;";
+        String text = "c3;e101;e121;e001;e001;f1c;f1aA;";
         taken(text, "near X 0 0", 0, 2);
         taken(text, "near 0 X 0", 0, 2);
         taken(text, "near 0 0 X", 0, 2);

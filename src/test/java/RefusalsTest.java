@@ -14,13 +14,13 @@ public final class RefusalsTest {
     /** No COMPLEX; a tape. */
     static final String[] BARE = {"tape c2;e012;"};
     /** A FAULT of number 3, a COMPLEX of 2 points, 2 edges and a face, both IMAGES, 8 ACTS, a tape. */
-    static final String[] RICH = {"tape c1;e001;f1a;f1a;f1a;f1a;f", "complex", "tape c2;e011;e003;f2bb;", "complex",
+    static final String[] RICH = {"tape c1;e001;f1a;f1a;f1a;f1a;f", "complex", "tape c2;e101;e003;f2bb;", "complex",
         "put 0 0 4", "image 0", "weigh 2 0 3", "put 1 1 -9", "image 1", "bound 2 0 1", "drawn 0 77", "edge 1 1 2", "drop 1 2",
         "put 0 1 9", "weigh 1 0 2", "tape c2;e012;"};
     /** RICH, but that no ACT can be undone. */
     static final String[] NO_ACTS = with(RICH, "undo", "undo", "undo", "undo", "undo", "undo", "undo", "undo");
     /** No IMAGE is kept. */
-    static final String[] NO_IMAGES = {"tape c2;e011;e003;f2bb;", "complex", "put 0 0 4", "weigh 2 0 3", "tape c1;"};
+    static final String[] NO_IMAGES = {"tape c2;e101;e003;f2bb;", "complex", "put 0 0 4", "weigh 2 0 3", "tape c1;"};
     static final String[] FULL_EDGES = {"tape c1;e001;e002;e003;e001;e002;e003;", "complex", "put 1 5 9", "image 1",
         "weigh 1 0 3", "put 1 5 8", "tape c2;e012;"};
     static final String[] FULL_FACES = {"tape c1;e001;f1a;f2aa;f3A;f1aA;", "complex", "put 1 0 9", "image 1", "weigh 2 0 3",

@@ -327,6 +327,21 @@ public final class TermsTest {
         p.tape("c5;").is("complex", 5).is("chain 0 0", BAD).tape("c1;e001;").is("complex", 2).chainIs(0, 0);
     }
 
+    /** What was told of the COMPLEX before is nothing to the one that stands in its place. */
+    @Caller.Says("A COMPLEX that is read stands in place of the one before")
+    static void theOneBeforeIsForgotten() {
+        String[] asked = {"rank 1 0", "rank 2 0", "rank 2 2", "holes 1 3", "twist 1 0", "twist 1 1", "twist 1 2", "whole 0 1",
+            "whole 0 2", "whole 2 2", "part 0 0 0 0", "part 0 1 0 0", "part 0 2 0 0", "length 0 0 0", "length 0 1 0",
+            "length 0 2 0", "share 0 0", "share 0 2", "trees 1 1", "trees 2 0", "trees 2 1", "minors 0", "minors 1", "minors 2"};
+        Caller fresh = Caller.reads("c2;e003;f2aaaa;").chain(0, 3);
+        for (String call : asked) {
+            Caller o = Caller.reads("c5;e011;e121;e201;e341;e001;e111;f1abc;f1e;f1aFA;f1f;").chain(0, 1, 2, 3, 4, 5, 6);
+            o.does(asked).does(call).tape("c2;e003;f2aaaa;").is("complex", 4).chain(0, 3);
+            Caller.same(call, o.answer(call), fresh.answer(call));
+        }
+        fresh.is("twist 1 0", 4).is("whole 0 2", 4).is("minors 2", 32).is("trees 2 1", 32).fraction("part 0 0 0", 3, 1);
+    }
+
     // ---- 1: faults
 
     @Caller.Says("FAULTS, the first TOKEN that has one")
@@ -467,6 +482,8 @@ public final class TermsTest {
             o.all(BAD, "as " + cell[0] + " " + cell[1] + " -1", "as " + cell[0] + " " + cell[1] + " 6");
         }
         Caller.reads("c2;e011;f1aA;f1aAaA;f1AaAa;").is("as 2 0 5", 0).is("as 2 1 5", 1).is("as 2 2 5", 2).is("as 1 0 3", NONE);
+        Caller.reads("c1;e001;f1a;f1A;").all(NONE, "as 2 0 5", "as 2 1 5");
+        Caller.reads(SIX + "f1f;").is("as 2 0 5", NONE);
         Caller.reads("c1;e001;e001;f1aB;f1abAB;f1ABab;f1aAb;").is("as 2 0 5", NONE).is("as 2 1 5", 1).is("as 2 2 5", 2)
             .is("as 2 3 5", NONE);
     }
@@ -583,6 +600,8 @@ public final class TermsTest {
         o.chain(2, 4, 0, 0, 1).is("whole 2 2", NONE).chain(2, 1, 3, 0, 0).is("whole 2 2", 4);
         Caller p = Caller.reads("c1;e001;e001;e001;e001;f1aaaB;f1bbbC;f1cccD;f1ddd;").chain(0, 1, 0, 0, 0).chain(1, 3, 0, 0, 0);
         p.is("whole 0 2", 81).is("whole 1 2", 27);
+        Caller q = Caller.reads(SIX + "f1aabb;f1ccdd;f1eeff;f1AAff;").chain(0, 0, 0, 0, 0, 1, 1).chain(1, 1, 1, 1, 1, 1, 1);
+        q.is("whole 0 2", 2).is("whole 1 2", 2).is("whole 1 1", 0).is("whole 2 2", 1).does("put 0 5 -1").is("whole 0 2", NONE);
     }
 
     @Caller.Says("LENGTH of numbers x of EDGES: the sum of x times x by the WEIGHT of each.")
@@ -608,6 +627,43 @@ public final class TermsTest {
         p.fraction("part 0 1 0", 1, 6).fraction("part 0 1 1", 1, 3).fraction("part 0 1 2", 1, 2);
         p.fraction("part 0 2 0", 5, 6).fraction("part 0 2 1", -1, 3).fraction("part 0 2 2", -1, 2);
         p.fraction("length 0 1", 1, 6).fraction("length 0 2", 5, 6);
+        Caller.reads("c1;e001;f1aA;f1a;").chain(0, 5).fraction("part 0 0 0", 5, 1).fraction("part 0 2 0", 0, 1);
+        Caller.reads("c5;e342;").chain(0, 5).fraction("part 0 1 0", 5, 1).fraction("part 0 2 0", 0, 1);
+    }
+
+    @Caller.Says("Any CHAIN is the sum of three PARTS")
+    static void partsOfTheLargest() {
+        Caller o = Caller.reads("c5;e011;e122;e233;e341;e402;e133;f2bcF;").chain(0, 9, -8, 7, -6, 5, -4);
+        partsAre(o, 0, "0/1 -2/7 -2/7 0/1 0/1 2/7");
+        partsAre(o, 1, "864/115 -936/115 789/115 -861/115 404/115 -123/23");
+        partsAre(o, 2, "171/115 342/805 342/805 171/115 171/115 171/161");
+        lengthsAre(o, "2/21 20357/115 9747/1610 1099/6");
+        Caller p = Caller.reads("c1;e002;e001;e003;e002;f1aab;f1bbC;f1ad;").chain(0, 9, -8, 7, 5);
+        partsAre(p, 0, "65/7 -58/7 37/7 33/7");
+        partsAre(p, 1, "0/1 0/1 0/1 0/1");
+        partsAre(p, 2, "-2/7 2/7 12/7 2/7");
+        lengthsAre(p, "2776/21 0/1 8/7 400/3");
+        Caller q = Caller.reads("c3;e012;e122;e202;e012;f1abc;f1aD;").chain(0, 9, -8, 7, 5);
+        partsAre(q, 0, "16/5 12/5 12/5 -4/5");
+        partsAre(q, 1, "29/5 -52/5 23/5 29/5");
+        partsAre(q, 2, "0/1 0/1 0/1 0/1");
+        lengthsAre(q, "56/5 983/10 0/1 219/2");
+    }
+
+    static void partsAre(Caller o, int part, String fractions) {
+        int edge = 0;
+        for (String f : fractions.split(" ")) {
+            o.fraction("part 0 " + part + " " + edge, Long.parseLong(f.split("/")[0]), Long.parseLong(f.split("/")[1]));
+            edge++;
+        }
+    }
+
+    static void lengthsAre(Caller o, String fractions) {
+        int part = 0;
+        for (String f : fractions.split(" ")) {
+            o.fraction("length 0 " + part, Long.parseLong(f.split("/")[0]), Long.parseLong(f.split("/")[1]));
+            part++;
+        }
     }
 
     // ---- 2: trees, minors, acts, draws
