@@ -757,13 +757,33 @@ public final class TermsTest {
         }
     }
 
+    /** Acts on TWO_FACES; face takes bbb as its WORD. */
+    static final String[] EACH_ACT = {"weigh 1 0 3", "weigh 1 0 2", "weigh 2 0 3", "weigh 2 0 2", "edge 0 1 3", "drop 1 0",
+        "drop 1 2", "drop 2 0", "drop 2 1", "put 0 0 5", "put 0 0 1", "bound 0 0 3", "bound 0 0 0", "bound 0 1 9", "drawn 0 1",
+        "face 2"};
+    static final String TWO_FACES = "c2;e012;e113;e011;f2bb;f1bB;";
+
+    @Caller.Says("8 at most are kept, of more the oldest is forgotten;")
+    static void eachActAsTheNinth() {
+        for (String act : EACH_ACT) {
+            Caller o = Caller.reads(TWO_FACES).does("put 2 0 9");
+            String oldest = o.cellsAndChains();
+            for (int e = 0; e < 7; e++) {
+                o.does("put 2 1 " + e);
+            }
+            o.is("count 3", 8).does("tape bbb", act).is("count 3", 8);
+            for (int left = 7; left >= 0; left--) {
+                o.is("undo", left);
+            }
+            o.all(STATE, "undo", "undo");
+            Caller.same("what is there behind all undone, " + act + " being the ninth", o.cellsAndChains(), oldest);
+        }
+    }
+
     @Caller.Says("a WEIGHT told anew (as it was, too), an EDGE, a FACE more or gone, a number of a CHAIN put, a CHAIN bounded, drawn.")
     static void eachAct() {
-        String text = "c2;e012;e113;e011;f2bb;f1bB;";
-        for (String act : new String[] {"weigh 1 0 3", "weigh 1 0 2", "weigh 2 0 3", "weigh 2 0 2", "edge 0 1 3", "drop 1 0",
-            "drop 1 2", "drop 2 0", "drop 2 1", "put 0 0 5", "put 0 0 1", "bound 0 0 3", "bound 0 0 0", "bound 0 1 9", "drawn 0 1",
-            "face 2"}) {
-            Caller o = Caller.reads(text).chain(0, 1, 2, 3).chain(1, 9, 8, 7);
+        for (String act : EACH_ACT) {
+            Caller o = Caller.reads(TWO_FACES).chain(0, 1, 2, 3).chain(1, 9, 8, 7);
             if (act.startsWith("face")) {
                 o.tape("bbb");
             }
